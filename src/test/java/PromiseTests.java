@@ -168,6 +168,13 @@ public final class PromiseTests {
         due("least bound", true, x.setBound(0, 10));
         due("evening bound of 0 lets no noise", 4, x.reason(0, 600, 1, 0, 0, 11, NONE));
         due("evening bound of 0 lets silence", 0, x.reason(0, 600, 1, 0, 0, 10, NONE));
+        Festivalgrid ends = new Festivalgrid();
+        loud(ends, 0, 0, 1, 40);
+        due("the first minute counts", false, ends.setBound(0, 29));
+        ends.drop(0);
+        loud(ends, 0, 999, 1, 40);
+        due("the last minute counts", false, ends.setBound(0, 39));
+        due("the last minute's bound", true, ends.setBound(0, 40));
         for (int house : BEYOND_THREE) {
             thrown("house " + house, INDEX, () -> x.setBound(house, 60));
             thrown("house and bound", INDEX, () -> x.setBound(house, 9));
@@ -212,6 +219,8 @@ public final class PromiseTests {
         due("a refused act has no number", NONE, quiet(x, 2, 999, 1));
         due("least of all", 1, x.plan(0, 0, 1, 0, 0, 0, 0));
         due("most draw with the first set", NONE, drawing(x, 1, 0, 1, 1, 101));
+        due("a refused act draws nothing", 0, x.load(0, 1));
+        due("a refused act holds no stage", 0, x.reason(1, 0, 1, 0, 0, 0, NONE));
         due("start", 800, x.start(0));
         due("draw", 200, x.ofAct(0, 0));
         due("loud", 200, x.ofAct(0, 1));
@@ -482,6 +491,7 @@ public final class PromiseTests {
         due("loudness not below 0", 0, x.ofAct(1, 1));
         wrongGrants(x);
         refusedGrants();
+        grantsOfOneThing();
     }
 
     private static void wrongGrants(Festivalgrid x) {
@@ -518,6 +528,19 @@ public final class PromiseTests {
         due("away from the others", true, x.move(1, 150));
         due("not at once any more", true, x.grant(1));
         due("channel 8", 8, x.ofAct(1, 2));
+    }
+
+    private static void grantsOfOneThing() {
+        Festivalgrid x = withSets(1);
+        x.plan(0, 100, 50, 0, 50, 30, 4);
+        int[][] due = {{70, 30, 4}, {50, 30, 4}, {50, 35, 4}, {50, 30, 4}, {50, 30, 5}};
+        String[] words = {"light", "dark", "loud", "soft", "air"};
+        for (int i = 0; i < words.length; i++) {
+            due(words[i], true, grant(x, words[i], 0));
+            for (int what = 0; what < 3; what++) {
+                due("what " + what + " behind " + words[i], due[i][what], x.ofAct(0, what));
+            }
+        }
     }
 
     private static void ofAct() {
