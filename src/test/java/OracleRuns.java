@@ -5,9 +5,12 @@
 public final class OracleRuns {
     private static final int CALLS = 250;
     private static final int RUNS = 240;
+    /** What an object answers after so many calls is free. */
+    private static final int MOST_CALLS = 512;
 
     private static long seed;
     private static int wrong;
+    private static int calls;
 
     /** In a tight run there is power enough, and few channels, so that the points 3 and 4 come to bear. */
     private static boolean tight;
@@ -376,7 +379,10 @@ public final class OracleRuns {
         return v;
     }
 
+    /** Whether the run may go on: both answered the same, and the object has calls left. */
     private static boolean same(int run, int number, Festivalgrid x, Model m, int call, int[] v) {
+        calls++;
+        if (calls > MOST_CALLS) return false;
         Object want = ask(m, call, v);
         Object got = call(x, call, v);
         if (want.equals(got)) return true;
@@ -389,6 +395,7 @@ public final class OracleRuns {
     private static void run(int run) {
         Festivalgrid x = new Festivalgrid();
         Model m = new Model();
+        calls = 0;
         int low = random(3) == 0 ? 0 : random(900);
         int high = Math.min(999, low + between(20, 300));
         tight = random(2) == 0;
@@ -408,7 +415,7 @@ public final class OracleRuns {
             if (!same(run, CALLS, x, m, 8, new int[] {k})) return;
             for (int what = 0; what < 3; what++) if (!same(run, CALLS, x, m, 13, new int[] {k, what})) return;
         }
-        if (!x.isFineByMinutes()) {
+        if (calls < MOST_CALLS && !x.isFineByMinutes()) {
             wrong++;
             System.out.println("run " + run + " ends with a plan that is not fine");
         }
