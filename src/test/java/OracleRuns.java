@@ -15,6 +15,8 @@ public final class OracleRuns {
     /** In a tight run there is power enough, and few channels, so that the points 3 and 4 come to bear. */
     private static boolean tight;
     private static int lowChannel;
+    /** In a mighty run all sets and wide bounds let acts draw and sound as much as can be, so that wishes end at 200. */
+    private static boolean mighty;
 
     private static int random(int bound) {
         seed = seed * 6364136223846793005L + 1442695040888963407L;
@@ -346,6 +348,11 @@ public final class OracleRuns {
         return random(12) == 0 ? random(1000) : between(low, high);
     }
 
+    /** A draw or a loudness from which a wish or two reach 0 or 200. */
+    private static int nearAnEnd() {
+        return random(2) == 0 ? random(30) : between(170, 200);
+    }
+
     private static int[] arguments(int call, Model m, int low, int high) {
         int act = random(Math.max(1, m.acts.size()));
         int[] v = new int[7];
@@ -364,6 +371,10 @@ public final class OracleRuns {
                 v[6] = random(3) == 0 ? -1 : random(32);
                 if (tight) v[4] = random(60);
                 if (tight && v[6] >= 0) v[6] = between(lowChannel, lowChannel + 6);
+                if (mighty) {
+                    v[4] = nearAnEnd();
+                    v[5] = nearAnEnd();
+                }
                 break;
             case 6: case 9: v[0] = act; v[1] = minute(low, high); break;
             case 10: v[0] = between('a', 'z'); break;
@@ -398,9 +409,12 @@ public final class OracleRuns {
         calls = 0;
         int low = random(3) == 0 ? 0 : random(900);
         int high = Math.min(999, low + between(20, 300));
-        tight = random(2) == 0;
+        mighty = run % 4 == 3;
+        tight = !mighty && random(2) == 0;
         lowChannel = random(26);
-        for (int k = 0; tight && k < 4; k++) if (!same(run, k, x, m, 0, new int[] {10 * k})) return;
+        int sets = mighty ? 6 : tight ? 4 : 0;
+        for (int k = 0; k < sets; k++) if (!same(run, k, x, m, 0, new int[] {10 * k})) return;
+        for (int h = 0; mighty && h < 3; h++) if (!same(run, h, x, m, 2, new int[] {h, 300})) return;
         for (int number = 0; number < CALLS; number++) {
             int call = pick();
             if (call == 12 && random(4) != 0) {
